@@ -89,7 +89,7 @@ public final class BoundGodmothers {
         Life one = now.life(child);
         if (one == null) return BAD;
         switch (what) {
-            case 0: return now.movesOf(one, now.year);
+            case 0: return now.movesOf(one);
             case 1: return now.endsOf(one);
             default: return BAD;
         }
@@ -676,8 +676,8 @@ public final class BoundGodmothers {
             return kinds[within(one.kind, KINDS - 1) ? one.kind : 0];
         }
 
-        int movesOf(Life one, int when) {
-            return kindOf(one).moves(one.fire, this, when);
+        int movesOf(Life one) {
+            return kindOf(one).moves(one.fire, this, year);
         }
 
         int endsOf(Life one) {
@@ -691,8 +691,9 @@ public final class BoundGodmothers {
 
         /** The YEAR numbered when, for one alone: no one moves another. */
         void passYearOf(Life one, int when) {
-            if (one.age < endsOf(one) && isGodmother(one.sworn)) {
-                one.move(movesOf(one, when), vices[one.sworn], isEasy(one.sworn));
+            Child as = kindOf(one);
+            if (one.age < as.ends(one.fire, this) && isGodmother(one.sworn)) {
+                one.move(as.moves(one.fire, this, when), vices[one.sworn], isEasy(one.sworn));
             }
             one.age = Math.min(HIGHEST, one.age + 1);
         }
@@ -1152,7 +1153,10 @@ public final class BoundGodmothers {
         }
     }
 
-    /** SHEETS and SHELVES. A row on a SHELF stays when its SHEET becomes another, so the SHELF has its sort and size. */
+    /**
+     * SHEETS and SHELVES. A row on a SHELF stays when its SHEET becomes another, so the SHELF has its sort and size;
+     * its items are never asked for there.
+     */
     static final class Cupboard {
         static final int MISSING = -1, BYTES = 0, SHORTS = 1, LONGS = 3;
         static final int MOST_ITEMS = 40;
