@@ -10,6 +10,7 @@ public final class TextEdgesTest {
         numbersInRange();
         digits();
         asLongAsTheyGo();
+        otherNames();
         blanks();
         eachByte();
         untold();
@@ -174,6 +175,37 @@ public final class TextEdgesTest {
         fault("vice 1 i s 1;", 7);
         fault("easy 1easy 2;", 6);
         Answers.due("a NUMBER right behind a NAME", church("slum1;vice1is2;twin to1trait2fire3wish4age5;"), 1);
+    }
+
+    /** Each NAME of a text that is right with each of its letters changed, left out, and said twice. */
+    private static void otherNames() {
+        Answers.sentence("section 2", "FAULT: the first NAME that can't stand there");
+        for (String kind : new String[] {"child", "heir", "urchin", "curate", "reformer", "twin"}) {
+            otherNamesIn(kind + " to 0 trait 1 fire 2 wish 3 age 4;");
+        }
+        for (String law : new String[] {"piety", "slum", "room", "slip"}) otherNamesIn(law + " 1;");
+        otherNamesIn("vice 1 is 2;");
+        otherNamesIn("easy 1;");
+        fault("child 1;", 6);
+        fault("vice 7 10;", 7);
+        fault("child to 1 trait;", 16);
+        fault("vice to 1;", 5);
+        fault("child is 1;", 6);
+    }
+
+    private static void otherNamesIn(String text) {
+        for (int i = 0; i < text.length(); i++) {
+            char sign = text.charAt(i);
+            if (!Character.isLetter(sign)) continue;
+            int begin = i;
+            while (begin > 0 && Character.isLetter(text.charAt(begin - 1))) begin--;
+            String before = text.substring(0, i);
+            String behind = text.substring(i + 1);
+            fault(before + (sign == 'z' ? 'y' : (char) (sign + 1)) + behind, begin);
+            fault(before + behind, begin);
+            fault(before + sign + sign + behind, begin);
+            fault(before + Character.toUpperCase(sign) + behind, begin);
+        }
     }
 
     private static void blanks() {

@@ -9,6 +9,7 @@ public final class ThingsEdgesTest {
         judgedWithoutRows();
         judgedByTheFirst();
         judgedFromNow();
+        actsOfEachKind();
         actsWrap();
         partedWraps();
         partedByNothing();
@@ -143,6 +144,18 @@ public final class ThingsEdgesTest {
         for (int i = 0; i <= number; i++) x.child(kind, 50, 5, sworn);
         x.shelf(0, 0, number);
         return x;
+    }
+
+    private static void actsOfEachKind() {
+        Answers.sentence("section 3", "BODIES: of number 4, SWORN to 3, who parts by less than 0");
+        int[][] table = {{10, 86, 80, -10, 0}, {10, 86, 83, -10, 3}, {10, -86, -92, -10, -16}, {10, 89, 86, -24, 6},
+            {10, -84, -73, -10, -29}, {11, 95, 89, 21, 27}};
+        for (int kind = 0; kind < 6; kind++) {
+            BoundGodmothers x = shelved(kind, 4, 3);
+            for (int act = 0; act < 4; act++) {
+                Answers.due(KINDS[kind] + " act " + act, x.act(0, act, table[kind][0]), table[kind][1 + act]);
+            }
+        }
     }
 
     private static void actsWrap() {

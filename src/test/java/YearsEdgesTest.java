@@ -6,6 +6,7 @@ public final class YearsEdgesTest {
         quotientsAreCut();
         setsAreBits();
         asAtFirst();
+        easyOrNot();
         movesAtTheEnds();
         endsAtTheEnds();
         endsNoMore();
@@ -79,10 +80,31 @@ public final class YearsEdgesTest {
         Answers.due("WISH", x.of(0, 3), 50);
         Answers.due("AGE", x.of(0, 4), 0);
         Answers.due("z", x.seed(0), 1);
+        // one that comes where another had been
+        x.change(0, 3, 9);
+        x.years(9);
+        x.church();
+        x.child(5, 99, 9, 7);
+        Answers.due("WISH", x.of(0, 3), 50);
+        Answers.due("AGE", x.of(0, 4), 0);
         Answers.sentence("promise 1", "No CHILDREN; nothing is kept");
         x = new BoundGodmothers();
         for (int what = 0; what <= 6; what++) Answers.due("many(" + what + ")", x.many(what), 0);
         Answers.due("again()", x.again(), Answers.NONE);
+    }
+
+    private static void easyOrNot() {
+        Answers.sentence("promise 13", "She is EASY (v 1) or not (0): what she was");
+        for (int her = 0; her < 8; her++) {
+            BoundGodmothers x = new BoundGodmothers();
+            int was = 0;
+            for (int v : new int[] {0, 1, 1, 0, 0}) {
+                Answers.due("easy(" + her + ", " + v + ")", x.easy(her, v), was);
+                Answers.due("godmother(" + her + ", 1)", x.godmother(her, 1), v);
+                Answers.due("EASY ones", x.state(4), v << her);
+                was = v;
+            }
+        }
     }
 
     private static void movesAtTheEnds() {
