@@ -131,6 +131,7 @@ public final class PlansEdgesTest {
         Answers.due("0, 5 and 7", x.swearFor(1, 30), 0);
         Answers.due("all but these", x.swearFor(0, 30), 1);
         Answers.due("SWORN stays", x.of(0, 5), 7);
+        Answers.due("all move it from its WISH", Answers.told("child to 7;").swearFor(0, 1), 0);
     }
 
     private static void kindForLeast() {

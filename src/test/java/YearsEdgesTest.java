@@ -87,6 +87,11 @@ public final class YearsEdgesTest {
         x.child(5, 99, 9, 7);
         Answers.due("WISH", x.of(0, 3), 50);
         Answers.due("AGE", x.of(0, 4), 0);
+        x = Answers.told("child to 0 wish 9 age 9;");
+        x.church();
+        x.child(5, 99, 9, 7);
+        Answers.due("WISH behind a text", x.of(0, 3), 50);
+        Answers.due("AGE behind a text", x.of(0, 4), 0);
         Answers.sentence("promise 1", "No CHILDREN; nothing is kept");
         x = new BoundGodmothers();
         for (int what = 0; what <= 6; what++) Answers.due("many(" + what + ")", x.many(what), 0);
