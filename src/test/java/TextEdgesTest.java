@@ -78,6 +78,16 @@ public final class TextEdgesTest {
         Answers.due("church() of what came behind it", x.church(), -100);
         Answers.due("church() of nothing", x.church(), 0);
         Answers.due("EASY ones behind nothing", x.state(4), 0);
+        // bytes of a longer one that is used up are not behind the end of the next
+        for (char used : new char[] {' ', ';', '0', 'a'}) {
+            for (String begun : new String[] {"slum", "slum 3", "slum 3;", "", " "}) {
+                x = Answers.feed(new BoundGodmothers(), ("" + used).repeat(200));
+                x.church();
+                Answers.feed(x, begun);
+                boolean isWhole = begun.endsWith(";") || begun.trim().isEmpty();
+                Answers.due("church() of '" + begun + "' behind 200 of '" + used + "'", x.church(), isWhole ? 0 : -100 - begun.length());
+            }
+        }
     }
 
     private static void emptyTexts() {
